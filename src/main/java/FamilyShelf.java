@@ -120,7 +120,7 @@ public final class FamilyShelf {
         checkVertex(u);
         checkVertex(v);
         checkDifferent(u, v);
-        graph.exchange(e, 1 << u | 1 << v);
+        graph.exchange(e, (1 << u) | (1 << v));
     }
 
     public boolean cut(int e) throws IndexOutOfBoundsException {
@@ -316,7 +316,7 @@ public final class FamilyShelf {
             for (int w = 0; w < WORDS; w++) {
                 int here = Long.bitCount(words[w]);
                 if (left < here) {
-                    return w << LOW_BITS | lowPlaceAt(words[w], left);
+                    return (w << LOW_BITS) | lowPlaceAt(words[w], left);
                 }
                 left -= here;
             }
@@ -432,7 +432,7 @@ public final class FamilyShelf {
                 case QUOTIENT:
                     divide(out, f, g);
                     break;
-                default:
+                default: // REMAINDER
                     divide(quotient, f, g);
                     pair(helper, quotient, g, true);
                     subtract(out, f, helper);
@@ -492,7 +492,7 @@ public final class FamilyShelf {
             long joined = word;
             for (int bit = 0; bit < LOW_BITS; bit++) {
                 if ((low >> bit & 1) != 0) {
-                    joined = joined & HAVING[bit] | (joined & ~HAVING[bit]) << (1 << bit);
+                    joined = (joined & HAVING[bit]) | ((joined & ~HAVING[bit]) << (1 << bit));
                 }
             }
             return joined;
@@ -502,7 +502,7 @@ public final class FamilyShelf {
             long met = word;
             for (int bit = 0; bit < LOW_BITS; bit++) {
                 if ((low >> bit & 1) == 0) {
-                    met = met & ~HAVING[bit] | (met & HAVING[bit]) >>> (1 << bit);
+                    met = (met & ~HAVING[bit]) | ((met & HAVING[bit]) >>> (1 << bit));
                 }
             }
             return met;
@@ -511,7 +511,7 @@ public final class FamilyShelf {
         /** The shifted sets come in, paired with the sets of g that have these low bits. */
         private void pairHighs(Family out, Family g, int low, boolean joining) {
             for (int high = 0; high < WORDS; high++) {
-                if (g.holds(high << LOW_BITS | low)) {
+                if (g.holds((high << LOW_BITS) | low)) {
                     for (int w = 0; w < WORDS; w++) {
                         out.words[joining ? w | high : w & high] |= shifted[w];
                     }
@@ -547,8 +547,9 @@ public final class FamilyShelf {
                     lows |= lows << (1 << bit);
                 }
             }
+            int high = bits >> LOW_BITS;
             for (int w = 0; w < WORDS; w++) {
-                out.words[w] = (w & bits >> LOW_BITS) == 0 ? lows : 0L;
+                out.words[w] = (w & high) == 0 ? lows : 0L;
             }
         }
 
@@ -573,7 +574,7 @@ public final class FamilyShelf {
                     case WITHOUT_IT:
                         out.words[w] = f.lacking(w, bit);
                         break;
-                    default:
+                    default: // TURNED
                         out.words[w] = f.lowered(w, bit) | f.raised(w, bit);
                         break;
                 }
@@ -630,7 +631,7 @@ public final class FamilyShelf {
             }
             for (int e = 0; e < ELEMENTS; e++) {
                 if ((ends[e] & seen) == at) {
-                    walk(out, ends, ends[e] ^ at, goal, seen | ends[e], place | 1 << bitOf(e));
+                    walk(out, ends, ends[e] ^ at, goal, seen | ends[e], place | (1 << bitOf(e)));
                 }
             }
         }
@@ -648,7 +649,7 @@ public final class FamilyShelf {
             }
             match(out, ends, e + 1, busy, place);
             if (ends[e] != 0 && (ends[e] & busy) == 0) {
-                match(out, ends, e + 1, busy | ends[e], place | 1 << bitOf(e));
+                match(out, ends, e + 1, busy | ends[e], place | (1 << bitOf(e)));
             }
         }
     }

@@ -1,6 +1,8 @@
 import java.util.ArrayList;
+import java.util.HashMap;
 import java.util.HashSet;
 import java.util.List;
+import java.util.Map;
 import java.util.NoSuchElementException;
 import java.util.Set;
 
@@ -247,21 +249,18 @@ final class NaiveShelf {
         int sum = 0;
         for (int e = 0; e < ELEMENTS; e++) {
             int element = e;
-            Set<Set<Integer>> families = new HashSet<>();
-            for (int x = 0; x < 1 << e; x++) {
-                families.add(behind(shelves[shelf], e, x));
-            }
+            Set<Set<Integer>> families = new HashSet<>(behind(members(shelves[shelf]), e).values());
             sum += (int) families.stream().filter(h -> h.stream().anyMatch(a -> hasElement(a, element))).count();
         }
         return sum;
     }
 
-    private static Set<Integer> behind(boolean[] family, int e, int x) {
-        Set<Integer> found = new HashSet<>();
-        for (int a : members(family)) {
-            if ((a & (1 << e) - 1) == x) {
-                found.add(a - x);
-            }
+    /** For each X below e that some set has: those sets, without X. (The others leave no sets, and never count.) */
+    private static Map<Integer, Set<Integer>> behind(List<Integer> family, int e) {
+        Map<Integer, Set<Integer>> found = new HashMap<>();
+        for (int a : family) {
+            int x = a & (1 << e) - 1;
+            found.computeIfAbsent(x, key -> new HashSet<>()).add(a - x);
         }
         return found;
     }
