@@ -37,7 +37,6 @@ public final class PromisesTest {
         test.nthAndRank();
         test.heaviest();
         test.size();
-        test.largestSize();
         test.parts();
         test.throwingChangesNothing();
         test.dearestCalls();
@@ -527,36 +526,6 @@ public final class PromisesTest {
         for (int shelf : NO_SHELVES) {
             checks.dueThrow("size", INDEX, () -> x.size(shelf));
         }
-    }
-
-    /**
-     * The elements 9 .. 11 name one of 0 .. 7, and a set has that one just when it has 8; {8} is there besides. No two
-     * choices of the elements below 9 leave the same, so that 0 .. 8 count 1, 2, 4 .. 256; then 9, 10 and 11 count all
-     * families that there are: 240, 12 and 2.
-     */
-    private void largestSize() {
-        FamilyShelf x = new FamilyShelf();
-        x.put(1, 0);
-        for (int e = 0; e < 8; e++) {
-            x.change(2, 2, 1, e);
-            x.combine(1, 0, 1, 2);
-        }
-        for (int e = 0; e < 8; e++) {
-            x.change(2, 0, 1, e);
-            x.change(2, 2, 2, e);
-            x.change(2, 2, 2, 8);
-            x.change(3, 1, 1, e);
-            x.combine(2, 0, 2, 3);
-            for (int bit = 0; bit < 3; bit++) {
-                if ((e >> bit & 1) != 0) {
-                    x.change(2, 2, 2, 9 + bit);
-                }
-            }
-            x.combine(0, 0, 0, 2);
-        }
-        x.put(0, 1 << 8);
-        checks.due("count for the largest size", x.count(0), 2049);
-        checks.due("the largest size", x.size(0), 765);
     }
 
     private void parts() {
