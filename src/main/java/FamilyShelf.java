@@ -745,6 +745,10 @@ public final class FamilyShelf {
         }
 
         private int newNode(int without, int with) {
+            // No family comes to this, as NODE_LIMIT tells; but no index is used before it is looked at.
+            if (end >= NODE_LIMIT) {
+                return EMPTY;
+            }
             int node = end;
             end++;
             lacking[node] = without;

@@ -76,6 +76,10 @@ public final class FaceTest {
         for (Method method : FamilyShelf.class.getMethods()) {
             face.add(method.getName());
         }
+        for (Method method : FamilyShelf.class.getDeclaredMethods()) {
+            boolean hidden = Modifier.isPrivate(method.getModifiers());
+            checks.due(method + " bears a name of the face", hidden && face.contains(method.getName()), false);
+        }
         for (Class<?> inside : FamilyShelf.class.getDeclaredClasses()) {
             checks.due(inside + " is static", Modifier.isStatic(inside.getModifiers()), true);
             for (Method method : inside.getDeclaredMethods()) {
