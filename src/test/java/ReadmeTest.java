@@ -1,14 +1,20 @@
 import java.io.IOException;
+import java.lang.reflect.Method;
+import java.lang.reflect.Modifier;
 import java.nio.file.Files;
 import java.nio.file.Path;
 import java.util.ArrayList;
 import java.util.List;
+import java.util.Set;
 import java.util.TreeSet;
 import java.util.regex.Matcher;
 import java.util.regex.Pattern;
 import java.util.stream.Stream;
 
-/** What README.md says is so: the answers of its example, and its list of tests. Run from the project's directory. */
+/**
+ * What README.md says is so: the answers of its example, which shows every call, and its list of tests. It is run from
+ * the project's directory.
+ */
 public final class ReadmeTest {
     private static final Path README = Path.of("README.md");
     private static final Path TESTS = Path.of("src/test/java");
@@ -31,6 +37,7 @@ public final class ReadmeTest {
 
     private void example() {
         Run run = new Run(checks, "README.md");
+        Set<String> shown = new TreeSet<>();
         List<String> block = javaBlock();
         checks.due("README.md: the example's first line", block.get(0), "FamilyShelf x = new FamilyShelf();");
         for (String line : block.subList(1, block.size())) {
@@ -38,8 +45,20 @@ public final class ReadmeTest {
             checks.due("README.md: a call and its answer: " + line, call.matches(), true);
             if (call.matches()) {
                 run.due(call.group(3), call.group(1), numbers(call.group(2)));
+                shown.add(call.group(1));
             }
         }
+        checks.due("README.md: the calls that it shows", shown.toString(), face().toString());
+    }
+
+    private static Set<String> face() {
+        Set<String> names = new TreeSet<>();
+        for (Method method : FamilyShelf.class.getDeclaredMethods()) {
+            if (Modifier.isPublic(method.getModifiers())) {
+                names.add(method.getName());
+            }
+        }
+        return names;
     }
 
     private List<String> javaBlock() {
